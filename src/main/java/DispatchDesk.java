@@ -821,6 +821,7 @@ public final class DispatchDesk {
             return height >= values;
         }
 
+        /** The value, or what ends the run. */
         int push(int value) {
             if (height >= MAX_HEIGHT) {
                 return Machine.BAD_STACK;
