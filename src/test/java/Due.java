@@ -6,12 +6,23 @@ final class Due {
 
     private static int wrong = 0;
     private static int seen = 0;
+    /** The sentence of the document that is being tested; a wrong answer is told with it. */
+    private static String sentence = "";
 
     interface Call {
         long answer();
     }
 
+    interface CallWith {
+        long answer(int n);
+    }
+
     private Due() {
+    }
+
+    /** What comes next tests these words of the document. */
+    static void sentence(String words) {
+        sentence = "\"" + words + "\": ";
     }
 
     static void is(String what, long want, Call call) {
@@ -30,6 +41,18 @@ final class Due {
         compare(what, want.getSimpleName(), outcome(call));
     }
 
+    /** The call is refused for every number of a list. */
+    static void failsForEach(String what, Class<?> want, int[] numbers, CallWith call) {
+        for (int n : numbers) {
+            fails(what + " " + n, want, () -> call.answer(n));
+        }
+    }
+
+    /** What is just outside of least .. most, and what is far outside. */
+    static int[] outside(int least, int most) {
+        return new int[] {least - 1, most + 1, Integer.MIN_VALUE, Integer.MAX_VALUE};
+    }
+
     /** The answer as a text, or the name of what was thrown. */
     static String outcome(Call call) {
         try {
@@ -43,7 +66,7 @@ final class Due {
         seen++;
         if (!want.equals(got)) {
             wrong++;
-            System.out.println(what + " answered " + got + ", due is " + want);
+            System.out.println(sentence + what + " answered " + got + ", due is " + want);
         }
     }
 
