@@ -11,7 +11,13 @@ public final class EdgesOfGraphsTest {
         "same, is 0 -3", "not same, below 1 2", "not even 0, is 1 1", "not class 0 1, below 1 0",
         "below 0 0, not even 1", "even 0, not below 1 3", "not even 0, is 1 -2", "not class 0 1, not same"};
 
-    /** Over eight classes; all but the last one never hold. */
+    /** These two over eight classes; all but the last method of each never hold. */
+    private static final String[] OF_30_TESTS_ON_ONE_WAY = {
+        "same, not same, less, class 0 6", "class 1 7, not class 1 7, class 0 1, class 1 1",
+        "class 0 2, not class 0 2, class 1 2, class 0 3", "class 1 3, not class 1 3, class 0 4, class 1 4",
+        "class 0 5, not class 0 5, class 1 5, below 0 -3", "below 0 -2, not below 0 -2, below 0 -1, below 0 0",
+        "below 0 1, not below 0 1, below 0 2, below 1 3", "below 1 2, not below 1 2, below 1 1, below 1 0",
+        "below 1 -1, not below 1 -1, below 1 -2", "class 0 7, class 1 6, not below 0 3, below 1 -3"};
     private static final String[] OF_48_TESTS = {
         "class 0 1, class 0 2, below 0 -3, below 0 -2", "class 1 1, class 1 2, below 1 -3, below 1 -2",
         "class 0 3, class 0 4, below 0 -1, below 0 0", "class 1 3, class 1 4, below 1 -1, below 1 0",
@@ -28,8 +34,9 @@ public final class EdgesOfGraphsTest {
         testsWhereIIsOfNoMatter();
         noTests();
         asManyTestsAsCanBe();
-        theLongestWayThatPasses();
-        theLongestWayThatDoesNotPass();
+        aLongWayThatPasses();
+        aLongWayThatDoesNotPass();
+        theLongestWayOfAll();
         aLeafForAllRows();
         leavesOfGapsAndAmbiguities();
         theFirstTestThatSplits();
@@ -169,7 +176,7 @@ public final class EdgesOfGraphsTest {
         Due.is("all but test 47 pass", -1, () -> x.run(0, 63, 7, 1));
     }
 
-    private static void theLongestWayThatPasses() {
+    private static void aLongWayThatPasses() {
         Due.sentence("a node for that test, with the trees for those that pass ..");
         DispatchDesk x = Make.chain(8);
         x.generic(2);
@@ -180,10 +187,10 @@ public final class EdgesOfGraphsTest {
             neverHolding(x, i, "below", 0, -1, -2);
         }
         Make.method(x, 0, "class 0 7, class 1 7, below 0 -3, below 1 -3");
-        dueLongestWay(x, Make.value(7, -4));
+        dueWay(x, Make.value(7, -4), Make.value(7, -4), 28);
     }
 
-    private static void theLongestWayThatDoesNotPass() {
+    private static void aLongWayThatDoesNotPass() {
         Due.sentence("a node for that test, with the trees for .. those that do not");
         DispatchDesk x = Make.chain(8);
         x.generic(2);
@@ -194,7 +201,7 @@ public final class EdgesOfGraphsTest {
             neverHolding(x, i, "below", 0, 1, 2);
         }
         Make.method(x, 0, "not class 0 1, not class 1 1, not below 0 3, not below 1 3");
-        dueLongestWay(x, Make.value(0, 3));
+        dueWay(x, Make.value(0, 3), Make.value(0, 3), 28);
     }
 
     private static void neverHolding(DispatchDesk x, int i, String word, int... numbers) {
@@ -205,11 +212,17 @@ public final class EdgesOfGraphsTest {
         Make.method(x, 0, condition.toString());
     }
 
-    /** Each of 28 tests takes one class or number away, and only one row is left at the end. */
-    private static void dueLongestWay(DispatchDesk x, int value) {
-        Due.is("nodes", 30, () -> x.compile(0));
-        Due.is("run", value, () -> x.run(0, value, value, 1));
-        Due.is("tests", 28, x::tests);
+    /** Besides the 28 tests that take one class or number away there are the two that look at both. */
+    private static void theLongestWayOfAll() {
+        Due.sentence("from the test behind it on");
+        dueWay(desk(8, 2, OF_30_TESTS_ON_ONE_WAY), Make.value(7, 3), Make.value(6, -4), 30);
+    }
+
+    /** Each test splits what is left, and this row alone has a method at the end. */
+    private static void dueWay(DispatchDesk x, int first, int second, int tests) {
+        Due.is("nodes", tests + 2, () -> x.compile(0));
+        Due.is("run", first, () -> x.run(0, first, second, 1));
+        Due.is("tests", tests, x::tests);
     }
 
     private static void aLeafForAllRows() {
